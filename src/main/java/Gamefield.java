@@ -299,7 +299,8 @@ public final class Gamefield {
             if (a < 2 || b < 2) {
                 return a * b;
             }
-            int f = splitterOf(a > b ? a : b);
+            int greater = a > b ? a : b;
+            int f = greater >= 16 ? 16 : greater >= 4 ? 4 : 2;
             int h = a / f;
             int l = a % f;
             int g = b / f;
@@ -307,13 +308,6 @@ public final class Gamefield {
             int hg = smallProduct(h, g);
             int high = hg ^ smallProduct(h, k) ^ smallProduct(l, g);
             return (f * high) ^ smallProduct(l, k) ^ smallProduct(hg, f / 2);
-        }
-
-        private static int splitterOf(int greater) {
-            if (greater >= 16) {
-                return 16;
-            }
-            return greater >= 4 ? 4 : 2;
         }
 
         private int smallProduct(int a, int b) {
