@@ -83,8 +83,12 @@ public final class FaceTest {
         }
     }
 
+    private static String textWithoutComments() throws IOException {
+        return Files.readString(SOURCE).replaceAll("(?s)/\\*.*?\\*/", "").replaceAll("//[^\n]*", "");
+    }
+
     private static void textKeepsTheRules() throws IOException {
-        String text = Files.readString(SOURCE).replaceAll("(?s)/\\*.*?\\*/", "").replaceAll("//[^\n]*", "");
+        String text = textWithoutComments();
         String[] ruledOut = {
             "\\bcatch\\b", "\\btry\\b", "\\bfinally\\b", "\\bsynchronized\\b", "\\bassert\\b", "\\bstatic\\s*\\{",
             "->", "::", "Exact\\b", "\\bdouble\\b.*\\bMath\\b", "\\bhashCode\\b", "\\btoString\\b", "\\bpackage\\b"
@@ -100,9 +104,8 @@ public final class FaceTest {
 
     /** Room is taken with the object alone: by its fields, and by the constructor's four parts. */
     private static void callsTakeNoRoom() throws IOException {
-        for (String line : Files.readAllLines(SOURCE)) {
-            boolean isMade = line.contains("new ") && !line.contains("throw new ") && !line.contains("* ");
-            if (isMade) {
+        for (String line : textWithoutComments().split("\n")) {
+            if (line.matches(".*\\bnew\\b.*") && !line.contains("throw new ")) {
                 boolean isField = line.matches("\\s*(private )?final [A-Za-z]+(\\[\\])? \\w+ = new .*;");
                 boolean isPart = line.matches(" {8}(numbers|registers|basket|board) = new .*;");
                 Checks.due("made with the object: " + line, isField || isPart, true);
