@@ -4,21 +4,25 @@ import java.util.function.Supplier;
 final class Checks {
     private static int wrong = 0;
     private static int looked = 0;
-    private static int promise = 0;
+    private static String about = "";
 
     private Checks() {
     }
 
     /** Says which promise of the document the next checks are about. */
     static void promise(int number) {
-        promise = number;
+        about("promise " + number);
+    }
+
+    static void about(String words) {
+        about = words;
     }
 
     static void due(String call, Object got, Object want) {
         looked++;
         if (!want.equals(got)) {
             wrong++;
-            System.out.println("promise " + promise + ": " + call + " answered " + got + ", due is " + want);
+            System.out.println(about + ": " + call + " answered " + got + ", due is " + want);
         }
     }
 
