@@ -54,7 +54,9 @@ public final class Gamefield {
     public int power(int to, int one, int exponent) throws IndexOutOfBoundsException, IllegalArgumentException {
         registers.requireRegister(to);
         int a = registers.numberOf(one);
-        requireBetween(0, exponent, Integer.MAX_VALUE);
+        if (exponent < 0) {
+            throw new IllegalArgumentException("an exponent below 0");
+        }
         return registers.change(to, numbers.powerOf(a, exponent));
     }
 

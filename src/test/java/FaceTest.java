@@ -102,6 +102,16 @@ public final class FaceTest {
         }
     }
 
+    /** Of the library only static functions that rule 4 lists are used, and of those these three. */
+    private static void onlyListedFunctions() throws IOException {
+        Pattern name = Pattern.compile("\\b(Integer|Long|Math|System|Arrays|String)\\b[^;{]*");
+        Matcher names = name.matcher(textWithoutComments());
+        while (names.find()) {
+            boolean isListed = names.group().matches("(?s)(Math\\.floorMod|Math\\.min|Integer\\.bitCount)\\(.*");
+            Checks.due("listed in rule 4: " + names.group(), isListed, true);
+        }
+    }
+
     /** Room is taken with the object alone: by its fields, and by the constructor's four parts. */
     private static void callsTakeNoRoom() throws IOException {
         for (String line : textWithoutComments().split("\n")) {
@@ -117,6 +127,7 @@ public final class FaceTest {
         faceIsTheDocuments();
         nothingElseIsOpen();
         textKeepsTheRules();
+        onlyListedFunctions();
         callsTakeNoRoom();
         Checks.finish("FaceTest");
     }
