@@ -21,7 +21,7 @@ public final class Gamefield {
         numbers = new Numbers();
         registers = new Registers();
         basket = new Basket();
-        board = new Board(numbers);
+        board = new Board();
     }
 
     // ---- registers: changes
@@ -202,7 +202,7 @@ public final class Gamefield {
     }
 
     public int worth() {
-        return board.worthByTrying();
+        return board.worthByTrying(numbers);
     }
 
     public int plays() {
@@ -217,15 +217,15 @@ public final class Gamefield {
             throw new IllegalStateException("no such play");
         }
         board.makePlay(code);
-        return board.worthByTrying();
+        return board.worthByTrying(numbers);
     }
 
     public int best() {
-        return board.bestPlay();
+        return board.bestPlay(numbers);
     }
 
     public int answer() {
-        int code = board.bestPlay();
+        int code = board.bestPlay(numbers);
         if (code != NONE) {
             board.makePlay(code);
         }
@@ -693,16 +693,8 @@ public final class Gamefield {
         private static final int PLACES = WIDTH * WIDTH;
         private static final int CODES = PLACES * PLACES;
 
-        /** The WORTH of a board on which just the coin of a place is heads up. */
-        private final int[] coinWorths = new int[PLACES];
         private final NumberSet made = new NumberSet();
         private int heads = 0;
-
-        Board(Numbers numbers) {
-            for (int place = 0; place < PLACES; place++) {
-                coinWorths[place] = numbers.productOf(place / WIDTH, place % WIDTH);
-            }
-        }
 
         static boolean isPlace(int x, int y) {
             return x >= 0 && x < WIDTH && y >= 0 && y < WIDTH;
@@ -760,19 +752,19 @@ public final class Gamefield {
             return plays;
         }
 
-        int worthByTrying() {
+        int worthByTrying(Numbers numbers) {
             made.empty();
             for (int code = 0; code < CODES; code++) {
                 if (isPlay(code)) {
-                    made.add(worthOf(headsAfter(code)));
+                    made.add(worthOf(headsAfter(code), numbers));
                 }
             }
             return made.leastAbsent();
         }
 
-        int bestPlay() {
+        int bestPlay(Numbers numbers) {
             for (int code = 0; code < CODES; code++) {
-                if (isPlay(code) && worthOf(headsAfter(code)) == 0) {
+                if (isPlay(code) && worthOf(headsAfter(code), numbers) == 0) {
                     return code;
                 }
             }
@@ -781,13 +773,14 @@ public final class Gamefield {
 
         /**
          * The WORTH of a board is the SUM of those of its coins, each taken alone, for a board is
-         * those games side by side; so no plays behind the next one need be tried.
+         * those games side by side; and a coin at x, y alone has the PRODUCT of x and y. So no plays
+         * behind the next one need be tried.
          */
-        private int worthOf(int board) {
+        private static int worthOf(int board, Numbers numbers) {
             int worth = 0;
             for (int place = 0; place < PLACES; place++) {
                 if ((board >> place & 1) == 1) {
-                    worth ^= coinWorths[place];
+                    worth ^= numbers.productOf(place / WIDTH, place % WIDTH);
                 }
             }
             return worth;

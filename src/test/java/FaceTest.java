@@ -112,12 +112,15 @@ public final class FaceTest {
         }
     }
 
-    /** Room is taken with the object alone: by its fields, and by the constructor's four parts. */
+    /**
+     * Room is taken with the object alone: by its fields, and by the constructor's four parts, of which
+     * it hands none to another one (rule 12).
+     */
     private static void callsTakeNoRoom() throws IOException {
         for (String line : textWithoutComments().split("\n")) {
             if (line.matches(".*\\bnew\\b.*") && !line.contains("throw new ")) {
                 boolean isField = line.matches("\\s*(private )?final [A-Za-z]+(\\[\\])? \\w+ = new .*;");
-                boolean isPart = line.matches(" {8}(numbers|registers|basket|board) = new .*;");
+                boolean isPart = line.matches(" {8}(numbers|registers|basket|board) = new [A-Za-z]+\\(\\);");
                 Checks.due("made with the object: " + line, isField || isPart, true);
             }
         }
